@@ -381,8 +381,7 @@ public final class ShadowTax {
 
     /** What a text tells of a ground; it stays as it is until another text is read. */
     private static final class Plan {
-        int width, height, cells, hours, persons, houses, greyDays;
-        boolean greyIsTold;
+        int width, height, cells, hours, persons, greyDays;
         /** By hour and cell: the cell one step on by the hour's way; NONE beyond the ground. */
         final int[][] onward = new int[HOUR_LIMIT][CELL_LIMIT];
         final int[] reach = new int[HOUR_LIMIT];
@@ -400,9 +399,7 @@ public final class ShadowTax {
             cells = 0;
             hours = 0;
             persons = 0;
-            houses = 0;
             greyDays = 0;
-            greyIsTold = false;
             for (int c = 0; c < CELL_LIMIT; c++) {
                 house[c] = 0;
             }
@@ -414,9 +411,7 @@ public final class ShadowTax {
             cells = other.cells;
             hours = other.hours;
             persons = other.persons;
-            houses = other.houses;
             greyDays = other.greyDays;
-            greyIsTold = other.greyIsTold;
             for (int h = 0; h < HOUR_LIMIT; h++) {
                 reach[h] = other.reach[h];
                 share[h] = other.share[h];
@@ -451,11 +446,9 @@ public final class ShadowTax {
         }
 
         void addHouse(int c, int t) {
-            if (!hasCell(c) || houses >= HOUSE_LIMIT) {
-                return;
+            if (hasCell(c)) {
+                house[c] = t;
             }
-            house[c] = t;
-            houses++;
         }
 
         void addHour(int dx, int dy, int cellsForHeight, int shares) {
@@ -628,7 +621,8 @@ public final class ShadowTax {
     /** The text, and how a plan is read from it. After the first fault nothing more is read. */
     private static final class Reading {
         private final byte[] text = new byte[TEXT_LIMIT];
-        private int next, faultNumber, numberPlace;
+        private int next, faultNumber, numberPlace, houses;
+        private boolean greyIsTold;
         int length;
         int faultPlace = NONE;
 
@@ -644,6 +638,8 @@ public final class ShadowTax {
             next = 0;
             faultNumber = 0;
             faultPlace = NONE;
+            houses = 0;
+            greyIsTold = false;
             plan.clear();
             // Every statement takes a byte at least, or has a fault.
             for (int i = 0; i <= TEXT_LIMIT && faultNumber == 0; i++) {
@@ -691,7 +687,7 @@ public final class ShadowTax {
         }
 
         private void readHouse(Plan plan, int from) {
-            if (plan.houses >= HOUSE_LIMIT) {
+            if (houses >= HOUSE_LIMIT) {
                 fail(3, from);
             }
             int c = readCell(plan);
@@ -702,6 +698,7 @@ public final class ShadowTax {
             readEnd();
             if (faultNumber == 0) {
                 plan.addHouse(c, t);
+                houses++;
             }
         }
 
@@ -735,14 +732,14 @@ public final class ShadowTax {
         }
 
         private void readGrey(Plan plan, int from) {
-            if (plan.greyIsTold) {
+            if (greyIsTold) {
                 fail(3, from);
             }
             int q = readNumber(0, HUNDRED);
             readEnd();
             if (faultNumber == 0) {
                 plan.greyDays = q;
-                plan.greyIsTold = true;
+                greyIsTold = true;
             }
         }
 
@@ -1137,6 +1134,9 @@ public final class ShadowTax {
         private int bestNext(int c, int hour) {
             int best = NONE;
             int sum = FAR;
+            if (!plan.hasCell(c)) {
+                return NONE;
+            }
             for (int dy = -1; dy <= 1; dy++) {
                 for (int dx = -1; dx <= 1; dx++) {
                     int next = plan.cellAt(plan.columnOf(c) + dx, plan.lineOf(c) + dy);

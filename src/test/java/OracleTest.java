@@ -21,6 +21,9 @@ public final class OracleTest {
         for (int run = 0; run < RUNS; run++) {
             new OracleTest(run).go(run % 4 == 3);
         }
+        for (int run = 0; run < 20; run++) {
+            new OracleTest(RUNS + run).goOnTheGreatest(run % 2 == 0);
+        }
         Check.end("OracleTest");
     }
 
@@ -29,6 +32,52 @@ public final class OracleTest {
         while (calls < CALLS) {
             newGround(onTexts);
             anyCalls(onTexts ? 3 : 60 + upTo(300));
+        }
+    }
+
+    /** All limits at once: 48 cells, 15 houses, 6 hours, 6 persons. */
+    private void goOnTheGreatest(boolean wide) {
+        StringBuilder text = new StringBuilder("ground " + (wide ? "8 6;" : "6 8;"));
+        boolean[] taken = new boolean[48];
+        for (int i = 0; i < 21; i++) {
+            int c = i == 0 ? 47 : upTo(47);
+            while (taken[c]) {
+                c = (c + 1) % 48;
+            }
+            taken[c] = true;
+            String place = c % (wide ? 8 : 6) + " " + c / (wide ? 8 : 6) + " ";
+            text.append(i % 7 < 5 ? "house " + place + from(1, 2) + ";" : "person " + place + from(1, 9) + ";");
+        }
+        for (int i = 0; i < 6; i++) {
+            int d = from(0, 7);
+            d = d < 4 ? d : d + 1;
+            text.append("sun " + d % 3 + " " + d / 3 + " " + from(1, 3) + " " + upTo(20) + ";");
+        }
+        begin(text.toString(), 8);
+        for (int p = 0; p < persons; p++) {
+            for (int hour = -1; hour < hours; hour++) {
+                same("walk(" + p + ", " + hour + ")", tax.walk(p, hour), oracle.walk(p, hour));
+                same("owed(" + p + ", " + hour + ")", tax.owed(p, hour), oracle.owed(p, hour));
+            }
+            for (int q = 0; q < persons; q++) {
+                same("couple(" + p + ", " + q + ")", tax.couple(p, q), oracle.couple(p, q));
+            }
+            for (int what = 0; what < 2; what++) {
+                same("best(" + p + ", " + what + ")", tax.best(p, what), oracle.best(p, what));
+                same("bestWall(9, " + p + ", " + what + ")", tax.bestWall(9, p, what), oracle.bestWall(9, p, what));
+            }
+            same("couples(" + p + ")", tax.couples(p), oracle.couples(p));
+            same("stood(" + p + ", -1)", tax.stood(p, -1), oracle.stood(p, -1));
+        }
+        same("couples(-1)", tax.couples(-1), oracle.couples(-1));
+        same("richest(0)", tax.richest(0), oracle.richest(0));
+        same("day(99)", tax.day(99), oracle.day(99));
+        for (int c = 0; c < 48; c++) {
+            int x = c % w;
+            int y = c / w;
+            same("wall(" + x + ", " + y + ", 3)", tax.wall(x, y, 3), oracle.wall(x, y, 3));
+            same("cell(" + x + ", " + y + ", 5, 1)", tax.cell(x, y, 5, 1), oracle.cell(x, y, 5, 1));
+            same("cell(" + x + ", " + y + ", 5, 3)", tax.cell(x, y, 5, 3), oracle.cell(x, y, 5, 3));
         }
     }
 
@@ -47,9 +96,12 @@ public final class OracleTest {
     // ---- texts
 
     private void newGround(boolean faulty) {
-        String text = text(faulty);
+        begin(text(faulty), faulty ? 6 : 1);
+    }
+
+    private void begin(String text, int least) {
         for (int from = 0; from < text.length();) {
-            int n = Math.min(from(faulty ? 6 : 1, 8), text.length() - from);
+            int n = Math.min(from(least, 8), text.length() - from);
             // What stands above the lowest n bytes is not to be looked at.
             long above = n == 8 ? 0 : random.nextLong() << 8 * n;
             long bytes = above | Check.packed(text.substring(from, from + n));

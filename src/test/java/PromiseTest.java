@@ -27,6 +27,7 @@ public final class PromiseTest {
         build();
         day();
         daysWithoutHours();
+        hourOfTheHat();
         best();
         errand();
         walk();
@@ -252,6 +253,14 @@ public final class PromiseTest {
         faulty("ground 1 1;hous", 1, 11);
         faulty("ground 1 1;housegrey", 1, 11);
         faulty("ground 1 1;ho use 0 0 1;", 1, 11);
+        faulty("ground 1 1;greya 1;", 1, 11);
+        faulty("ground 1 1;greyz 1;", 1, 11);
+        faulty("xround 1 1;", 1, 0);
+        faulty("ground 1 1;xouse 0 0 1;", 1, 11);
+        faulty("ground 1 1;xun 0 0 1 1;", 1, 11);
+        faulty("ground 1 1;xerson 0 0 1;", 1, 11);
+        faulty("ground 1 1;xrey 1;", 1, 11);
+        faulty("ground 1 1;grez 1;", 1, 11);
         faulty("ground 1 1;house ground", 1, 17);
         faulty("ground 1 1;house 0 0", 1, 20);
         faulty("ground 1 1;house 0 0 1 grey 1;", 1, 23);
@@ -467,6 +476,8 @@ public final class PromiseTest {
         due("onto the other", x.go(0, 0, 0), 43);
         due("onto its own cell", x.go(0, 0, 0), 0);
         due("a house", x.go(0, 2, 1), NOT);
+        x.build(2, 1, 1);
+        due("a low house", x.go(0, 2, 1), NOT);
         due("person 2", x.go(2, 2, 1), UNKNOWN);
         due("person -1", x.go(-1, 0, 0), UNKNOWN);
         due("x 5", x.go(0, 5, 0), UNKNOWN);
@@ -476,6 +487,7 @@ public final class PromiseTest {
         due("x stays", x.person(0, 0), 0);
         x.build(2, 1, 0);
         due("no house any more", x.go(0, 2, 1), 0);
+        due("from there", x.go(0, 1, 3), 21);
     }
 
     private static void fold() {
@@ -580,6 +592,37 @@ public final class PromiseTest {
         due("houses around", 10 * x.person(0, 0) + x.person(0, 1), 11);
     }
 
+    /** Day by day, at each seed, the hour that the hat gives: each hour takes another sum in. */
+    private static void hourOfTheHat() {
+        String[] hats = {"0 1 1", "1 0 0", "2 1 3", "0 5 0", "20 20 20", "0 0 1"};
+        for (String hat : hats) {
+            String[] shares = hat.split(" ");
+            for (int q = 0; q <= 100; q += 50) {
+                on("ground 4 1;sun 2 1 1 " + shares[0] + ";sun 2 1 2 " + shares[1] + ";sun 2 1 3 " + shares[2]
+                    + ";person 0 0 1;grey " + q + ";");
+                for (int seed = 0; seed < 30; seed++) {
+                    checkHour(seed * 71582788, q, Integer.parseInt(shares[0]), Integer.parseInt(shares[1]), Integer.parseInt(shares[2]));
+                }
+            }
+        }
+    }
+
+    private static void checkHour(long seed, int q, int first, int second, int third) {
+        x.seed((int) seed);
+        x.go(0, 0, 0);
+        int before = x.told(6);
+        seed = (seed * 1103515245L + 12345L) % 2147483648L;
+        int come = 0;
+        if (seed / 65536 % 100 >= q) {
+            seed = (seed * 1103515245L + 12345L) % 2147483648L;
+            int d = (int) (seed / 65536 % (first + second + third));
+            come = d < first ? 1 : d < first + second ? 2 : 3;
+        }
+        due("day(1), what came in", x.day(1) - before, come);
+        seed = (seed * 1103515245L + 12345L) % 2147483648L;
+        due("day(1), seed", x.seed(0), seed);
+    }
+
     // ---- where to be
 
     private static void best() {
@@ -656,7 +699,8 @@ public final class PromiseTest {
         due("hour -2", x.walk(0, -2), UNKNOWN);
         due("person 1", x.walk(1, NONE), UNKNOWN);
         due("person -1", x.walk(-1, 0), UNKNOWN);
-        on("ground 2 2;person 0 0 9;");
+        Check.feed(x, "ground 5 2;person 4 1 9;");
+        x.ground();
         due("without hours", x.walk(0, NONE), 0);
         due("without hours, hour 0", x.walk(0, 0), UNKNOWN);
     }
@@ -777,6 +821,7 @@ public final class PromiseTest {
         due("person -1", x.bestWall(0, -1, 2), UNKNOWN);
         due("t 0", x.bestWall(0, 0, 0), OUTSIDE);
         due("t 10", x.bestWall(10, 0, 0), OUTSIDE);
+        due("t 9: from 0 it darkens both", x.bestWall(9, 0, 0), 0);
         due("what 2", x.bestWall(1, 0, 2), OUTSIDE);
         due("what -1", x.bestWall(1, 0, -1), OUTSIDE);
         on("ground 2 1;house 0 0 1;person 1 0 1;");
