@@ -326,6 +326,27 @@ public final class PromiseTest {
         faulty("ground 2 1;" + repeated("sun 0 1 1 1;", 7), 3, 11 + 6 * 12);
         reads("ground 2 1;" + repeated("person 1 0 1;", 6), 2);
         due("six persons", x.told(3), 6);
+        // What is counted is counted anew for each text, and of a longer text before nothing is left.
+        x = new ShadowTax();
+        for (int i = 0; i < 3; i++) {
+            Check.feed(x, houses(15) + "grey 100;");
+            due("15 houses, grey", x.ground(), 48);
+            due("the last house", x.cell(6, 1, 0, 0), UNKNOWN);
+        }
+        Check.feed(x, houses(15) + "grey 1");
+        due("no end", x.ground(), -11);
+        due("there", x.fault(), 11 + 15 * 12 + 6);
+        Check.feed(x, "ground 8 6");
+        due("no end of the first", x.ground(), -11);
+        due("there", x.fault(), 10);
+        Check.feed(x, "groun");
+        due("no word", x.ground(), -11);
+        due("there", x.fault(), 0);
+        Check.feed(x, "ground 8 6;sun 2 1 1 1;");
+        due("no houses", x.ground(), 48);
+        for (int i = 0; i < 15; i++) {
+            due("no house", x.cell(i % 8, i / 8, 0, 0), 0);
+        }
         faulty("ground 2 1;" + repeated("person 1 0 1;", 7), 3, 11 + 6 * 13);
     }
 
