@@ -81,8 +81,12 @@ public final class OracleTest {
         }
     }
 
+    /** What later calls than these answer is free. */
     private void same(String call, int got, int due) {
-        Check.due(name + calls++ + ": " + call, got, due);
+        if (calls < CALLS) {
+            Check.due(name + calls + ": " + call, got, due);
+        }
+        calls++;
     }
 
     private int upTo(int most) {

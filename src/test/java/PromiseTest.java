@@ -1,7 +1,5 @@
 /** Promise by promise: ordinary calls, the edges that the document names, and each refusal in its order. */
-public final class PromiseTest {
-    private static final int NONE = -1, UNKNOWN = -1000000001, OUTSIDE = -1000000002, NOT = -1000000003, FULL = -1000000004;
-
+public final class PromiseTest extends Edges {
     /** Cells 0 .. 5 in a row; at hour 0 shadows fall right, 1 a height, at hour 1 left, 2 a height. */
     private static final String ROW = "ground 6 1;sun 2 1 1 2;sun 0 1 2 1;person 1 0 2;person 3 0 1;";
 
@@ -45,16 +43,6 @@ public final class PromiseTest {
         seed();
         keepAndGoBack();
         Check.end("PromiseTest");
-    }
-
-    private static void due(String call, long got, long want) {
-        Check.due(call, got, want);
-    }
-
-    private static void on(String text) {
-        x = new ShadowTax();
-        Check.feed(x, text);
-        Check.isTrue("ground() of " + text, x.ground() >= 0);
     }
 
     // ---- the ground
@@ -148,7 +136,7 @@ public final class PromiseTest {
     }
 
     private static void busy() {
-        on(ROW + "house 5 0 3;grey 30;");
+        x = on(ROW + "house 5 0 3;grey 30;");
         x.law(1);
         x.seed(77);
         x.fold(0, true);
@@ -196,39 +184,24 @@ public final class PromiseTest {
         due("tear", x.tear(), 0);
     }
 
-    private static void reads(String text, int cells) {
-        x = new ShadowTax();
-        Check.feed(x, text);
-        due("ground() of '" + text + "'", x.ground(), cells);
-        due("fault() of '" + text + "'", x.fault(), NONE);
-    }
-
     private static void texts() {
-        reads("", 0);
-        reads("   ", 0);
-        reads("ground 1 1;", 1);
-        reads("ground1 1;", 1);
-        reads("  ground  1   1  ;  ", 1);
-        reads("ground 001 09;", 9);
-        reads("ground 8 6;", 48);
-        reads("ground 6 8;", 48);
-        reads("ground 9 5;", 45);
-        reads("ground 4 2;grey0;person3 1 9;sun0 0 0 0;house 2 1 009 ; sun 2 2 3 20;person 3 1 1;", 8);
+        x = reads("", 0);
+        x = reads("   ", 0);
+        x = reads("ground 1 1;", 1);
+        x = reads("ground1 1;", 1);
+        x = reads("  ground  1   1  ;  ", 1);
+        x = reads("ground 001 09;", 9);
+        x = reads("ground 8 6;", 48);
+        x = reads("ground 6 8;", 48);
+        x = reads("ground 9 5;", 45);
+        x = reads("ground 4 2;grey0;person3 1 9;sun0 0 0 0;house 2 1 009 ; sun 2 2 3 20;person 3 1 1;", 8);
         due("hours", x.told(2), 2);
         due("persons on one cell", x.told(3), 2);
         due("a house", x.cell(2, 1, 0, 0), 9);
-        reads("ground 2 1;grey 100;", 2);
+        x = reads("ground 2 1;grey 100;", 2);
         due("Q", x.told(11), 100);
-        reads("ground 2 1;", 2);
+        x = reads("ground 2 1;", 2);
         due("Q untold", x.told(11), 0);
-    }
-
-    private static void faulty(String text, int number, int place) {
-        ShadowTax y = new ShadowTax();
-        Check.feed(y, text);
-        due("ground() of '" + text + "'", y.ground(), -10 - number);
-        due("fault() of '" + text + "'", y.fault(), place);
-        due("told(0) of '" + text + "'", y.told(0), 0);
     }
 
     private static void faults() {
@@ -298,33 +271,17 @@ public final class PromiseTest {
         faulty("ground 3 2;house 2 1 1;house 2 0001 0;", 2, 31);
     }
 
-    private static String repeated(String statement, int times) {
-        StringBuilder text = new StringBuilder();
-        for (int i = 0; i < times; i++) {
-            text.append(statement);
-        }
-        return text.toString();
-    }
-
-    private static String houses(int count) {
-        StringBuilder text = new StringBuilder("ground 8 6;");
-        for (int i = 0; i < count; i++) {
-            text.append("house " + i % 8 + " " + i / 8 + " 1;");
-        }
-        return text.toString();
-    }
-
     private static void faultsOfLimits() {
         faulty("ground 2 1;ground 2 1;", 3, 11);
         faulty("ground 2 1;ground", 3, 11);
         faulty("ground 2 1;grey 0;grey 0;", 3, 18);
-        reads(houses(15), 48);
+        x = reads(houses(15), 48);
         faulty(houses(15) + " house", 3, 11 + 15 * 12 + 1);
         faulty(houses(15) + "house 0 0 1;", 3, 11 + 15 * 12);
-        reads("ground 2 1;" + repeated("sun 0 1 1 1;", 6), 2);
+        x = reads("ground 2 1;" + repeated("sun 0 1 1 1;", 6), 2);
         due("six hours", x.told(2), 6);
         faulty("ground 2 1;" + repeated("sun 0 1 1 1;", 7), 3, 11 + 6 * 12);
-        reads("ground 2 1;" + repeated("person 1 0 1;", 6), 2);
+        x = reads("ground 2 1;" + repeated("person 1 0 1;", 6), 2);
         due("six persons", x.told(3), 6);
         // What is counted is counted anew for each text, and of a longer text before nothing is left.
         x = new ShadowTax();
@@ -351,7 +308,7 @@ public final class PromiseTest {
     }
 
     private static void told() {
-        on("ground 6 1;sun 2 1 1 2;sun 0 1 2 1;person 1 0 2;person 3 0 1;grey 7;");
+        x = on("ground 6 1;sun 2 1 1 2;sun 0 1 2 1;person 1 0 2;person 3 0 1;grey 7;");
         x.errand(0, 0, 0, 0);
         x.tell(0, 0);
         x.tell(0, 0);
@@ -369,7 +326,7 @@ public final class PromiseTest {
     }
 
     private static void cell() {
-        on("ground 5 2;house 2 0 3;sun 2 1 1 1;sun 0 1 1 1;person 0 0 9;person 4 0 4;person 0 1 1;person 1 1 2;");
+        x = on("ground 5 2;house 2 0 3;sun 2 1 1 1;sun 0 1 1 1;person 0 0 9;person 4 0 4;person 0 1 1;person 1 1 2;");
         due("height", x.cell(2, 0, 0, 0), 3);
         due("no height", x.cell(1, 0, 0, 0), 0);
         due("dark right of it", x.cell(3, 0, 0, 1), 1);
@@ -399,16 +356,16 @@ public final class PromiseTest {
 
     private static void shadows() {
         // Somebody in the dark has no shadow; his cells in the dark are nobody's.
-        on("ground 7 1;house 0 0 2;sun 2 1 1 1;person 2 0 4;person 4 0 2;");
+        x = on("ground 7 1;house 0 0 2;sun 2 1 1 1;person 2 0 4;person 4 0 2;");
         due("dark", x.cell(2, 0, 0, 1), 1);
         due("no shadow from the dark", x.cell(3, 0, 0, 2), 0);
         due("owes nothing", x.owed(0, 0), 0);
         due("the other owes", x.owed(1, 0), 2);
         due("go left", x.go(1, 0, 0), NOT);
-        on("ground 7 1;house 5 0 2;sun 0 1 1 1;person 6 0 4;person 4 0 2;");
+        x = on("ground 7 1;house 5 0 2;sun 0 1 1 1;person 6 0 4;person 4 0 2;");
         due("a house ahead", x.cell(5, 0, 0, 2), 0);
         due("1 is dark", x.owed(1, 0), 0);
-        on("ground 3 3;sun 0 0 1 1;sun 1 0 1 1;sun 2 0 1 1;sun 0 1 1 1;sun 2 1 1 1;sun 2 2 1 1;person 1 1 1;");
+        x = on("ground 3 3;sun 0 0 1 1;sun 1 0 1 1;sun 2 0 1 1;sun 0 1 1 1;sun 2 1 1 1;sun 2 2 1 1;person 1 1 1;");
         due("up left", x.cell(0, 0, 0, 2), 1);
         due("up", x.cell(1, 0, 1, 2), 1);
         due("up right", x.cell(2, 0, 2, 2), 1);
@@ -416,7 +373,7 @@ public final class PromiseTest {
         due("right", x.cell(2, 1, 4, 2), 1);
         due("down right", x.cell(2, 2, 5, 2), 1);
         // A house in a house's shadow; shadows that a house in the dark casts all the same.
-        on("ground 9 1;house 0 0 9;house 3 0 1;sun 2 1 1 1;sun 2 1 3 0;sun 2 1 0 5;");
+        x = on("ground 9 1;house 0 0 9;house 3 0 1;sun 2 1 1 1;sun 2 1 3 0;sun 2 1 0 5;");
         due("ahead of the second", x.cell(2, 0, 0, 1), 1);
         due("behind the second", x.cell(4, 0, 0, 1), 1);
         due("beyond its height", x.cell(5, 0, 0, 1), 0);
@@ -428,7 +385,7 @@ public final class PromiseTest {
     private static void laws() {
         // All of 0's shadow lies in 1's, and 2 is as tall as 1.
         String text = "ground 8 1;sun 2 1 1 1;person 1 0 3;person 0 0 6;person 0 0 6;";
-        on(text);
+        x = on(text);
         due("law 0: the least owes", x.owed(0, 0), 3);
         due("law 0: 1 owes the rest", x.owed(1, 0), 3);
         due("law 0: 2 owes nothing", x.owed(2, 0), 0);
@@ -448,7 +405,7 @@ public final class PromiseTest {
     }
 
     private static void person() {
-        on(ROW + "sun 2 1 3 0;");
+        x = on(ROW + "sun 2 1 3 0;");
         int[] all = {1, 0, 2, 0, 0, 5, 2};
         for (int what = 0; what < 7; what++) {
             due("person(0, " + what + ")", x.person(0, what), all[what]);
@@ -465,18 +422,18 @@ public final class PromiseTest {
         due("person -1", x.person(-1, 99), UNKNOWN);
         due("what 7", x.person(0, 7), OUTSIDE);
         due("what -1", x.person(0, -1), OUTSIDE);
-        on("ground 2 3;person 1 2 1;");
+        x = on("ground 2 3;person 1 2 1;");
         due("y", x.person(0, 1), 2);
         due("MEAN without hours", x.person(0, 5), 0);
         due("WORST without hours", x.person(0, 6), 0);
-        on("ground 3 1;sun 2 1 1 0;person 0 0 2;");
+        x = on("ground 3 1;sun 2 1 1 0;person 0 0 2;");
         due("WORST without shares", x.person(0, 6), 0);
         due("MEAN without shares", x.person(0, 5), 0);
         due("owed without shares", x.owed(0, 0), 2);
     }
 
     private static void owed() {
-        on(ROW);
+        x = on(ROW);
         due("owed(0, 0)", x.owed(0, 0), 2);
         due("owed(0, 1)", x.owed(0, 1), 1);
         due("owed(1, 0)", x.owed(1, 0), 1);
@@ -490,7 +447,7 @@ public final class PromiseTest {
     // ---- what is done
 
     private static void go() {
-        on("ground 5 4;house 2 1 2;sun 2 1 1 1;person 3 2 2;person 0 0 1;");
+        x = on("ground 5 4;house 2 1 2;sun 2 1 1 1;person 3 2 2;person 0 0 1;");
         due("go(0, 4, 3)", x.go(0, 4, 3), 32);
         due("x", x.person(0, 0), 4);
         due("y", x.person(0, 1), 3);
@@ -512,7 +469,7 @@ public final class PromiseTest {
     }
 
     private static void fold() {
-        on(ROW);
+        x = on(ROW);
         due("fold(1, true)", x.fold(1, true), 0);
         due("again", x.fold(1, true), 1);
         due("T 0", x.person(1, 2), 0);
@@ -536,7 +493,7 @@ public final class PromiseTest {
     }
 
     private static void build() {
-        on("ground 6 1;house 5 0 4;sun 2 1 1 2;sun 0 1 1 1;person 1 0 2;");
+        x = on("ground 6 1;house 5 0 4;sun 2 1 1 2;sun 0 1 1 1;person 1 0 2;");
         due("build(3, 0, 9)", x.build(3, 0, 9), 0);
         due("height", x.cell(3, 0, 0, 0), 9);
         due("dark behind it", x.cell(4, 0, 0, 1), 1);
@@ -554,14 +511,14 @@ public final class PromiseTest {
         due("t -1", x.build(1, 0, -1), OUTSIDE);
         due("x 6", x.build(6, 0, 10), UNKNOWN);
         due("y 1", x.build(0, 1, 1), UNKNOWN);
-        on("ground 8 6;");
+        x = on("ground 8 6;");
         for (int i = 0; i < 48; i++) {
             due("all cells built", x.build(i % 8, i / 8, 1), 0);
         }
     }
 
     private static void day() {
-        on(ROW);
+        x = on(ROW);
         due("day(0)", x.day(0), OUTSIDE);
         due("day(100)", x.day(100), OUTSIDE);
         due("day(-1)", x.day(-1), OUTSIDE);
@@ -583,7 +540,7 @@ public final class PromiseTest {
         due("the treasury", x.told(6), 3);
         Check.isTrue("99 days", x.day(99) >= 3);
         due("purses pay the treasury", x.told(6), -x.person(0, 4) - x.person(1, 4));
-        on(ROW + "grey 100;");
+        x = on(ROW + "grey 100;");
         due("all days grey", x.day(99), 0);
         due("nobody pays", x.person(0, 4), 0);
         x = new ShadowTax();
@@ -594,7 +551,7 @@ public final class PromiseTest {
 
     private static void daysWithoutHours() {
         // Without shares a day is one draw of 100, and one of each person.
-        on("ground 9 5;sun 2 1 1 0;person 4 2 3;");
+        x = on("ground 9 5;sun 2 1 1 0;person 4 2 3;");
         due("nothing comes in", x.day(1), 0);
         long first = (0 * 1103515245L + 12345L) % 2147483648L;
         long second = (first * 1103515245L + 12345L) % 2147483648L;
@@ -602,13 +559,13 @@ public final class PromiseTest {
         due("x", x.person(0, 0), 4 + d % 3 - 1);
         due("y", x.person(0, 1), 2 + d / 3 - 1);
         due("seed", x.seed(0), second);
-        on("ground 9 5;");
+        x = on("ground 9 5;");
         due("nobody", x.day(2), 0);
         due("two draws", x.seed(0), second);
-        on("ground 1 1;person 0 0 1;");
+        x = on("ground 1 1;person 0 0 1;");
         x.day(50);
         due("nowhere to go", x.person(0, 0) + x.person(0, 1), 0);
-        on("ground 3 3;house 0 0 1;house 1 0 1;house 2 0 1;house 0 1 1;house 2 1 1;house 0 2 1;house 1 2 1;house 2 2 1;person 1 1 1;");
+        x = on("ground 3 3;house 0 0 1;house 1 0 1;house 2 0 1;house 0 1 1;house 2 1 1;house 0 2 1;house 1 2 1;house 2 2 1;person 1 1 1;");
         x.day(99);
         due("houses around", 10 * x.person(0, 0) + x.person(0, 1), 11);
     }
@@ -619,7 +576,7 @@ public final class PromiseTest {
         for (String hat : hats) {
             String[] shares = hat.split(" ");
             for (int q = 0; q <= 100; q += 50) {
-                on("ground 4 1;sun 2 1 1 " + shares[0] + ";sun 2 1 2 " + shares[1] + ";sun 2 1 3 " + shares[2]
+                x = on("ground 4 1;sun 2 1 1 " + shares[0] + ";sun 2 1 2 " + shares[1] + ";sun 2 1 3 " + shares[2]
                     + ";person 0 0 1;grey " + q + ";");
                 for (int seed = 0; seed < 30; seed++) {
                     checkHour(seed * 71582788, q, Integer.parseInt(shares[0]), Integer.parseInt(shares[1]), Integer.parseInt(shares[2]));
@@ -648,7 +605,7 @@ public final class PromiseTest {
 
     private static void best() {
         // Hour 0 right, hour 1 down: MEAN is least where the one with more shares has no room.
-        on("ground 4 3;sun 2 1 1 5;sun 1 2 1 1;person 1 1 3;");
+        x = on("ground 4 3;sun 2 1 1 5;sun 1 2 1 1;person 1 1 3;");
         due("MEAN here", x.person(0, 5), 2 * 5 + 1);
         due("best MEAN", x.best(0, 0), 32);
         due("best WORST", x.best(0, 1), 32);
@@ -657,22 +614,22 @@ public final class PromiseTest {
         // Nothing falls right from 3 1, and the house is right below it.
         due("best MEAN now", x.best(0, 0), 31);
         due("best WORST now", x.best(0, 1), 31);
-        on("ground 4 3;person 1 1 3;house 0 0 1;");
+        x = on("ground 4 3;person 1 1 3;house 0 0 1;");
         due("of like ones the first", x.best(0, 0), 10);
-        on("ground 4 1;sun 2 1 1 0;sun 0 1 1 1;person 3 0 9;");
+        x = on("ground 4 1;sun 2 1 1 0;sun 0 1 1 1;person 3 0 9;");
         due("WORST without shares is none", x.best(0, 1), 0);
         due("what 2", x.best(0, 2), OUTSIDE);
         due("what -1", x.best(0, -1), OUTSIDE);
         due("person 1", x.best(1, 0), UNKNOWN);
         due("person -1", x.best(-1, 2), UNKNOWN);
         // Two hours: least MEAN and least WORST are not the same cell.
-        on("ground 5 1;sun 2 1 1 3;sun 0 1 1 1;person 1 0 9;");
+        x = on("ground 5 1;sun 2 1 1 3;sun 0 1 1 1;person 1 0 9;");
         due("least MEAN", x.best(0, 0), 40);
         due("least WORST", x.best(0, 1), 20);
     }
 
     private static void errand() {
-        on(ROW + "house 5 0 1;");
+        x = on(ROW + "house 5 0 1;");
         for (int i = 1; i <= 10; i++) {
             due("errand " + i, x.errand(i % 2, 5, 0, 1), i);
         }
@@ -688,7 +645,7 @@ public final class PromiseTest {
 
     private static void walk() {
         // Right at all hours, one cell a height; 9 high: it owes the cells to the right.
-        on("ground 6 2;sun 2 1 1 1;sun 2 1 1 2;sun 2 1 1 3;person 2 1 9;");
+        x = on("ground 6 2;sun 2 1 1 1;sun 2 1 1 2;sun 2 1 1 3;person 2 1 9;");
         due("MEAN of the walk", x.walk(0, NONE), 3 + 2 * 2 + 1 * 3);
         due("hour 0", x.walk(0, 0), 21);
         due("hour 1", x.walk(0, 1), 30);
@@ -727,7 +684,7 @@ public final class PromiseTest {
     }
 
     private static void walkOfLikeOnes() {
-        on("ground 5 5;sun 2 1 1 0;sun 2 1 1 0;sun 2 1 1 0;person 3 3 5;person 0 0 1;");
+        x = on("ground 5 5;sun 2 1 1 0;sun 2 1 1 0;sun 2 1 1 0;person 3 3 5;person 0 0 1;");
         due("first cell 1", x.walk(0, 1), 22);
         due("first cell 2", x.walk(0, 2), 11);
         x.errand(1, 4, 4, 1);
@@ -736,16 +693,16 @@ public final class PromiseTest {
         due("not through a house", x.walk(0, 1), 32);
         due("and on", x.walk(0, 2), 21);
         // The first by the earlier hour, even where the later cell comes first.
-        on("ground 3 1;sun 2 1 1 0;sun 2 1 1 0;person 1 0 1;house 0 0 1;");
+        x = on("ground 3 1;sun 2 1 1 0;sun 2 1 1 0;person 1 0 1;house 0 0 1;");
         due("houses bar", x.walk(0, 1), 10);
         // The others' shadows count: in law 0 the lesser one owes what both cast.
-        on("ground 6 1;sun 2 1 1 1;sun 2 1 1 1;person 0 0 5;person 1 0 4;");
+        x = on("ground 6 1;sun 2 1 1 1;sun 2 1 1 1;person 0 0 5;person 1 0 4;");
         due("1 walks in 0's shadow", x.walk(1, NONE), 0);
         due("and stays by it", x.walk(1, 1), 0);
     }
 
     private static void couple() {
-        on("ground 8 1;sun 2 1 1 2;person 1 0 3;person 4 0 2;person 6 0 1;");
+        x = on("ground 8 1;sun 2 1 1 2;person 1 0 3;person 4 0 2;person 6 0 1;");
         // 0: 2 3 4, 1: 5 6, 2: 7. As one, 3 high: from 1: 2 3 4, from 4: 5 6 7.
         due("couple(0, 1)", x.couple(0, 1), 10 - 6);
         due("couple(1, 0)", x.couple(1, 0), 4);
@@ -758,17 +715,17 @@ public final class PromiseTest {
         due("person -1", x.couple(-1, 0), UNKNOWN);
         due("they stay", x.owed(0, 0), 3);
         // Somebody in the dark owes nothing: as one they walk there.
-        on("ground 9 1;house 5 0 1;sun 2 1 1 1;person 1 0 2;person 6 0 9;");
+        x = on("ground 9 1;house 5 0 1;sun 2 1 1 1;person 1 0 2;person 6 0 9;");
         due("in the dark", x.person(1, 5), 0);
         due("both in the dark", x.couple(0, 1), 2);
         // The greater height is that with hats as they are.
-        on("ground 9 2;sun 2 1 1 1;person 0 0 3;person 0 1 4;");
+        x = on("ground 9 2;sun 2 1 1 1;person 0 0 3;person 0 1 4;");
         due("as one 4 high", x.couple(0, 1), 3 + 4 - 4);
         x.fold(1, true);
         due("as one 3 high", x.couple(0, 1), 3 + 3 - 3);
         x.fold(0, true);
         due("as one 3 high still", x.couple(0, 1), 2 + 3 - 3);
-        on("ground 9 1;sun 2 1 1 1;person 3 0 1;person 3 0 5;person 2 0 5;");
+        x = on("ground 9 1;sun 2 1 1 1;person 3 0 1;person 3 0 5;person 2 0 5;");
         x.law(1);
         // 2: 3 .. 7; 1: 4 .. 8 of which it owes all (the least of like ones); as one with 0: the same.
         due("MEAN of 0", x.person(0, 5), 0);
@@ -779,36 +736,36 @@ public final class PromiseTest {
     }
 
     private static void couples() {
-        on("ground 8 1;sun 2 1 1 2;person 1 0 3;person 4 0 2;person 6 0 1;");
+        x = on("ground 8 1;sun 2 1 1 2;person 1 0 3;person 4 0 2;person 6 0 1;");
         due("sum", x.couples(NONE), 6);
         due("0", x.couples(0), 2);
         due("1", x.couples(1), NONE);
         due("2", x.couples(2), 0);
         due("person 3", x.couples(3), UNKNOWN);
         due("person -2", x.couples(-2), UNKNOWN);
-        on("ground 8 1;person 1 0 3;person 4 0 2;");
+        x = on("ground 8 1;person 1 0 3;person 4 0 2;");
         due("nothing gained", x.couples(NONE), 0);
         due("alone ahead of a couple", x.couples(0), NONE);
         // Four alike in four rows: each two gain the same; 0 with 1, 2 with 3.
-        on("ground 4 4;sun 2 1 1 1;person 0 0 3;person 0 1 3;person 0 2 3;person 0 3 3;");
+        x = on("ground 4 4;sun 2 1 1 1;person 0 0 3;person 0 1 3;person 0 2 3;person 0 3 3;");
         due("two couples", x.couples(NONE), 6);
         due("0", x.couples(0), 1);
         due("1", x.couples(1), 0);
         due("2", x.couples(2), 3);
         due("3", x.couples(3), 2);
         // Of three alike one stays alone: 0, as it comes first.
-        on("ground 4 3;sun 2 1 1 1;person 0 0 3;person 0 1 3;person 0 2 3;");
+        x = on("ground 4 3;sun 2 1 1 1;person 0 0 3;person 0 1 3;person 0 2 3;");
         due("one couple", x.couples(NONE), 3);
         due("0 alone", x.couples(0), NONE);
         due("1 with 2", x.couples(1), 2);
         due("2 with 1", x.couples(2), 1);
-        on("ground 2 1;");
+        x = on("ground 2 1;");
         due("nobody", x.couples(NONE), 0);
         due("nobody 0", x.couples(0), UNKNOWN);
     }
 
     private static void wall() {
-        on("ground 6 1;sun 2 1 1 2;sun 0 1 2 1;person 1 0 2;person 3 0 1;house 5 0 1;");
+        x = on("ground 6 1;sun 2 1 1 2;sun 0 1 2 1;person 1 0 2;person 3 0 1;house 5 0 1;");
         // House 5: dark at hour 1: 4, 3; so 1 owes 1 cell (4) at hour 0 only, 0: 2 cells, 1 cell.
         due("MEAN of all", x.told(10), 2 * 2 + 1 + 1 * 2);
         // A wall on 2, 1 high: hour 0 it stops 0, darkens 3, 1 has no shadow; hour 1 it darkens 0 1.
@@ -826,12 +783,12 @@ public final class PromiseTest {
         due("x 6", x.wall(6, 0, 0), UNKNOWN);
         due("y 1", x.wall(0, 1, 1), UNKNOWN);
         // A wall that stops a house's shadow lets somebody into the light: the treasury has more.
-        on("ground 8 1;house 0 0 9;sun 2 1 1 1;person 5 0 2;");
+        x = on("ground 8 1;house 0 0 9;sun 2 1 1 1;person 5 0 2;");
         due("below 0", x.wall(1, 0, 1), -2);
     }
 
     private static void bestWall() {
-        on("ground 6 1;sun 2 1 1 2;sun 0 1 2 1;person 1 0 2;person 3 0 1;house 5 0 1;");
+        x = on("ground 6 1;sun 2 1 1 2;sun 0 1 2 1;person 1 0 2;person 3 0 1;house 5 0 1;");
         due("bestWall(1, 0, 0)", x.bestWall(1, 0, 0), 20);
         due("p is not looked at", x.bestWall(1, 1, 0), 20);
         // On 0 it darkens 1 at hour 0, and stops 0's shadow at hour 1.
@@ -845,15 +802,15 @@ public final class PromiseTest {
         due("t 9: from 0 it darkens both", x.bestWall(9, 0, 0), 0);
         due("what 2", x.bestWall(1, 0, 2), OUTSIDE);
         due("what -1", x.bestWall(1, 0, -1), OUTSIDE);
-        on("ground 2 1;house 0 0 1;person 1 0 1;");
+        x = on("ground 2 1;house 0 0 1;person 1 0 1;");
         due("no free cell", x.bestWall(1, 0, 0), NONE);
         due("no free cell, what 1", x.bestWall(1, 0, 1), NONE);
-        on("ground 2 2;house 0 0 1;person 0 1 1;");
+        x = on("ground 2 2;house 0 0 1;person 0 1 1;");
         due("of like ones the first", x.bestWall(1, 0, 0), 10);
     }
 
     private static void richest() {
-        on("ground 6 1;sun 2 1 1 0;sun 0 1 2 9;person 1 0 2;person 3 0 1;");
+        x = on("ground 6 1;sun 2 1 1 0;sun 0 1 2 9;person 1 0 2;person 3 0 1;");
         due("of like ones the first", x.richest(0), 0);
         due("how much", x.richest(1), 3);
         x.go(0, 2, 0);
@@ -862,11 +819,11 @@ public final class PromiseTest {
         due("how much then", x.richest(1), 3);
         due("what 2", x.richest(2), OUTSIDE);
         due("what -1", x.richest(-1), OUTSIDE);
-        on("ground 6 1;person 1 0 1;");
+        x = on("ground 6 1;person 1 0 1;");
         due("without hours", x.richest(0), NONE);
         due("without hours, how much", x.richest(1), NONE);
         due("without hours, what 2", x.richest(2), OUTSIDE);
-        on("ground 6 1;sun 2 1 1 1;");
+        x = on("ground 6 1;sun 2 1 1 1;");
         due("nobody", x.richest(0), 0);
         due("nobody, how much", x.richest(1), 0);
     }
@@ -874,7 +831,7 @@ public final class PromiseTest {
     // ---- told taxes
 
     private static void tell() {
-        on(ROW);
+        x = on(ROW);
         due("sum -1", x.tell(0, -1), OUTSIDE);
         due("sum 100", x.tell(0, 100), OUTSIDE);
         due("hour 2", x.tell(2, 100), UNKNOWN);
@@ -888,7 +845,7 @@ public final class PromiseTest {
     }
 
     private static void stood() {
-        on(ROW + "house 5 0 1;");
+        x = on(ROW + "house 5 0 1;");
         due("nothing told", x.stood(0, NONE), 5);
         due("nothing told, the last", x.stood(0, 4), 40);
         due("no more", x.stood(0, 5), NONE);
@@ -911,13 +868,13 @@ public final class PromiseTest {
         due("it does not go", x.person(0, 0), 1);
         due("person 2", x.stood(2, NONE), UNKNOWN);
         due("person -1", x.stood(-1, -2), UNKNOWN);
-        on("ground 3 2;person 0 0 1;");
+        x = on("ground 3 2;person 0 0 1;");
         due("y by y", x.stood(0, 3), 1);
         due("x rising", x.stood(0, 2), 20);
     }
 
     private static void write() {
-        on(ROW);
+        x = on(ROW);
         due("hour 2", x.write(2, 0, 100), UNKNOWN);
         due("hour -1", x.write(-1, 0, 0), UNKNOWN);
         due("person 2", x.write(0, 2, 0), UNKNOWN);
@@ -946,7 +903,7 @@ public final class PromiseTest {
     }
 
     private static void judge() {
-        on(ROW);
+        x = on(ROW);
         due("empty", x.judge(), NONE);
         x.write(0, 0, 2);
         x.write(1, 0, 1);
@@ -974,7 +931,7 @@ public final class PromiseTest {
     }
 
     private static void keepAndGoBack() {
-        on(ROW);
+        x = on(ROW);
         due("keep(2)", x.keep(2), UNKNOWN);
         due("keep(-1)", x.keep(-1), UNKNOWN);
         due("goBack(2)", x.goBack(2), UNKNOWN);
