@@ -54,11 +54,12 @@ abstract class Edges {
 
     /** Feeds blanks until the text has so many bytes. */
     static void fill(ShadowTax tax, int length) {
-        while (tax.told(4) + 8 <= length) {
+        int left = length - tax.told(4);
+        for (; left >= 8; left -= 8) {
             tax.feed(8, 0x2020202020202020L);
         }
-        while (tax.told(4) < length) {
-            tax.feed(1, ' ');
+        if (left > 0) {
+            tax.feed(left, 0x2020202020202020L);
         }
     }
 
@@ -88,17 +89,21 @@ abstract class Edges {
         for (int what = 0; what <= 11; what++) {
             all.add(tax.told(what));
         }
-        for (int p = 0; p < tax.told(3); p++) {
+        int width = all.get(0);
+        int cells = width * all.get(1);
+        int hours = all.get(2);
+        int persons = all.get(3);
+        for (int p = 0; p < persons; p++) {
             for (int what = 0; what <= 6; what++) {
                 all.add(tax.person(p, what));
             }
             all.add(tax.walk(p, NONE));
             all.add(tax.stood(p, NONE));
         }
-        for (int c = 0; c < tax.told(0) * tax.told(1); c++) {
-            for (int hour = 0; hour < tax.told(2); hour++) {
-                all.add(tax.cell(c % tax.told(0), c / tax.told(0), hour, 0));
-                all.add(tax.cell(c % tax.told(0), c / tax.told(0), hour, 3));
+        for (int c = 0; c < cells; c++) {
+            for (int hour = 0; hour < hours; hour++) {
+                all.add(tax.cell(c % width, c / width, hour, 0));
+                all.add(tax.cell(c % width, c / width, hour, 3));
             }
         }
         all.add(tax.judge());

@@ -30,6 +30,7 @@ public final class LookEdgesTest extends Edges {
         houseCellsAreNotOwed();
         leastOfThoseWhoseShadowItIs();
         tallestOfThoseWhoseShadowItIs();
+        firstAndLastCellInTwoShadows();
         meanIsNotPartedByShares();
         meanOfNothing();
         worstIsOfHoursWithShares();
@@ -420,6 +421,22 @@ public final class LookEdgesTest extends Edges {
         x.law(0);
         due("8: LAW 0 again", x.owed(0, 0), 2);
         due("8: LAW 0 again, 1", x.owed(1, 0), 1);
+    }
+
+    /** Promise 8: "is owed by one of those whose SHADOW it is": the first CELL alone, the 48th alone, in two shadows. */
+    private static void firstAndLastCellInTwoShadows() {
+        for (int rule = 0; rule < 2; rule++) {
+            ShadowTax x = on("ground 8 6;sun 0 1 1 1;sun 2 1 1 1;person 1 0 1;person 1 0 1;person 6 5 1;person 6 5 1;");
+            x.law(rule);
+            int[] owed = {1, 0, 1, 0};
+            for (int p = 0; p < 4; p++) {
+                due("8: LAW " + rule + ", the cell beside " + p, x.owed(p, p / 2), owed[p]);
+            }
+            due("6: LAW " + rule + ", both shadows on the first cell", x.cell(0, 0, 0, 2), 3);
+            due("6: LAW " + rule + ", who owes the first cell", x.cell(0, 0, 0, 3), 0);
+            due("6: LAW " + rule + ", both shadows on the last cell", x.cell(7, 5, 1, 2), 12);
+            due("6: LAW " + rule + ", who owes the last cell", x.cell(7, 5, 1, 3), 2);
+        }
     }
 
     /** Promise 7: "OWED at each HOUR times its S, together (a sum; not parted by all S)": S 0, 20. */

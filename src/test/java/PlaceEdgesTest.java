@@ -34,6 +34,7 @@ public final class PlaceEdgesTest extends Edges {
         couplesWorthNothingWalkAlone();
         couplesOfLikeOnesTheFirst();
         couplesOfSix();
+        couplesAreParted();
         wallUnknown();
         wallOutside();
         wallNotOnHousesAndPersons();
@@ -48,6 +49,7 @@ public final class PlaceEdgesTest extends Edges {
         richestWithoutHours();
         richestOfLikeOnesIsTheFirst();
         richestWithoutPersonsOrShares();
+        placesOnTheGreatestGround();
         Check.end("PlaceEdgesTest");
     }
 
@@ -470,6 +472,18 @@ public final class PlaceEdgesTest extends Edges {
         due("18: a seventh", x.couples(6), UNKNOWN);
     }
 
+    /** Promise 18: "parting PERSONS into couples and single ones": whoever walks with one walks with no other. */
+    private static void couplesAreParted() {
+        ShadowTax x = on("ground 8 1;sun 2 1 1 2;person 1 0 3;person 4 0 2;person 6 0 1;");
+        due("18: worth of 0 and 2", x.couple(0, 2), 6);
+        due("18: worth of 1 and 2", x.couple(1, 2), 4);
+        due("18: the sum", x.couples(NONE), 6);
+        int[] with = {2, NONE, 0};
+        for (int p = 0; p < 3; p++) {
+            due("18: with whom " + p + " walks", x.couples(p), with[p]);
+        }
+    }
+
     // ---- promise 19
 
     /** Promise 19: "A WALL ... UNKNOWN". */
@@ -648,5 +662,33 @@ public final class PlaceEdgesTest extends Edges {
         x = on("ground 5 2;sun 0 1 1 1;sun 2 1 1 1;person 3 0 3;person 2 1 2;");
         due("21: together", x.richest(1), 5);
         due("21: at hour 0", x.richest(0), 0);
+    }
+
+    // ---- all limits at once
+
+    /** Promises 14, 16, 19, 20: 48 CELLS, six HOURS, six PERSONS: the last of each. */
+    private static void placesOnTheGreatestGround() {
+        ShadowTax x = on("ground 8 6;" + repeated("sun 2 1 1 1;", 6) + repeated("person 0 0 1;", 5) + "person 7 5 1;");
+        due("14: the first cell of the last column", x.best(0, 0), 70);
+        due("14: the first cell, where all is owed by 0", x.best(5, 0), 0);
+        for (int hour = 0; hour < 6; hour++) {
+            due("16: up the last column, hour " + hour, x.walk(5, hour), 75 - hour);
+        }
+        due("16: it owes nothing", x.walk(5, NONE), 0);
+        x.errand(0, 5, 5, 5);
+        due("16: aslant, hour 5", x.walk(0, 5), 55);
+        due("16: aslant", x.walk(0, NONE), 6);
+        due("19: the last cell but one", x.wall(6, 5, 9), 0);
+        due("19: where the last person is", x.wall(7, 5, 9), NOT);
+        for (int c = 1; c < 46; c++) {
+            due("12: a house on " + c, x.build(c % 8, c / 8, 1), 0);
+        }
+        due("20: the only free cell", x.bestWall(9, 5, 0), 65);
+        due("14: with houses around", x.best(5, 1), 0);
+        due("16: houses bar", x.walk(5, 5), 65);
+        x.go(5, 6, 5);
+        due("20: the 48th cell", x.bestWall(1, 5, 1), 75);
+        due("12: there", x.build(7, 5, 9), 0);
+        due("20: no free cell", x.bestWall(1, 5, 1), NONE);
     }
 }

@@ -14,6 +14,7 @@ public final class TextEdgesTest extends Edges {
         groundTellsHowManyCells();
         textIsEmptyThen();
         groundBeginsAnew();
+        nothingIsLeftOfAGreaterGround();
         faultLeavesAllElse();
         faultsAreTenLess();
         faultOfTheLatestGround();
@@ -244,6 +245,34 @@ public final class TextEdgesTest extends Edges {
         due("3: THE BOOK from 1 on", x.write(0, 0, 1), 1);
     }
 
+    /** Promise 3: "THE TEXT ... becomes THE GROUND": nothing is left of a greater one, in any answer, nor in later days. */
+    private static void nothingIsLeftOfAGreaterGround() {
+        String most = houses(15) + repeated("sun 2 1 3 20;", 5) + "sun 1 2 3 20;"
+            + "person 0 2 9;person 1 2 9;person 0 3 8;person 7 5 9;person 3 3 7;person 0 4 9;grey 50;";
+        String[] texts = {"ground 4 3;sun 2 1 1 3;sun 1 2 1 1;person 0 2 2;person 1 0 1;", "ground 9 1;sun 2 1 1 1;person 0 0 9;",
+            "ground 3 3;person 0 2 1;person 1 0 1;person 2 2 1;", "ground 2 2;sun 0 1 1 1;", "ground 1 1;person 0 0 1;", ""};
+        for (String text : texts) {
+            ShadowTax x = on(most);
+            for (int p = 0; p < 6; p++) {
+                x.walk(p, NONE);
+            }
+            x.couples(NONE);
+            x.bestWall(9, 5, 1);
+            x.day(9);
+            x.seed(5);
+            Check.feed(x, text);
+            x.ground();
+            ShadowTax y = on(text);
+            y.seed(5);
+            same("3: '" + text + "' after a greater one", shown(x), shown(y));
+            due("18: '" + text + "', couples", x.couples(NONE), y.couples(NONE));
+            for (int i = 0; i < 5; i++) {
+                due("13: '" + text + "', day " + i, x.day(1), y.day(1));
+                due("13: '" + text + "', THE SEED on day " + i, seedOf(x), seedOf(y));
+            }
+        }
+    }
+
     /** Promise 3: "(all else is as it was)" with a FAULT, of each number. */
     private static void faultLeavesAllElse() {
         String[] texts = {"ground 4 4;hat", "ground 4 4;person 9 0 1;", "ground 4 4;ground", "ground 4 4;person 0 0 1;house 0 0 1;"};
@@ -352,7 +381,7 @@ public final class TextEdgesTest extends Edges {
         faulty("ground 2 2;house 1 1 9;house 1 1", 4, 31);
     }
 
-    /** Promise 3: "(6 HOURS at most, one behind the other"; promise 4: "a seventh 'sun' (at its first letter)". */
+    /** Promise 3: "(6 HOURS at most, one behind the other"; promise 4: "a seventh 'sun', ... (at its first letter)". */
     private static void hoursAreAtMostSix() {
         due("3: no hours", reads("ground 2 1;", 2).told(2), 0);
         due("3: one hour", reads("ground 2 1;sun 0 0 0 0;", 2).told(2), 1);
@@ -459,7 +488,7 @@ public final class TextEdgesTest extends Edges {
         faulty("ground 1 1;grey 999;", 2, 16);
     }
 
-    /** Promise 3: "once"; promise 4: "3 ... 'grey' again (at its first letter)". */
+    /** Promise 3: "once"; promise 4: "3 ... 'grey' again, ... (at its first letter)". */
     private static void greyIsToldOnce() {
         faulty("ground 1 1;grey 5;grey 5;", 3, 18);
         faulty("ground 1 1;grey 0;  grey", 3, 20);

@@ -16,7 +16,7 @@ public final class ToldEdgesTest extends Edges {
         stoodWithoutAHouse();
         stoodInOrder();
         stoodJustAsTold();
-        stoodAtNoHours();
+        stoodAtEachToldHour();
         writeUnknown();
         writeOutside();
         writeIsFullAt30();
@@ -32,6 +32,7 @@ public final class ToldEdgesTest extends Edges {
         goBackNotKept();
         imagesKeepWhatIsTold();
         imagesKeepNothingElse();
+        imagesKeepTheFirstAndTheLast();
         imagesAreTwo();
         imagesStayAsTheyAre();
         imagesAreGoneWithTheGround();
@@ -167,7 +168,7 @@ public final class ToldEdgesTest extends Edges {
     }
 
     /** Promise 23: each told HOUR counts, ten times the same as well as all six. */
-    private static void stoodAtNoHours() {
+    private static void stoodAtEachToldHour() {
         ShadowTax x = on("ground 3 3;sun 2 1 1 0;sun 0 1 1 0;sun 1 2 1 0;sun 1 0 1 0;sun 2 2 1 0;sun 0 0 1 0;person 0 0 1;");
         for (int hour = 0; hour < 6; hour++) {
             x.tell(hour, 1);
@@ -415,6 +416,41 @@ public final class ToldEdgesTest extends Edges {
         x.tear();
         x.goBack(0);
         due("29: nothing torn comes again", x.tear(), 0);
+    }
+
+    /** Promise 28, 29: "where PERSONS are, what is FOLDED, PURSES, ... houses": of all six PERSONS and all 48 CELLS. */
+    private static void imagesKeepTheFirstAndTheLast() {
+        ShadowTax x = on("ground 8 6;sun 2 1 1 1;" + repeated("person 0 1 2;", 6));
+        x.build(0, 0, 1);
+        x.build(7, 5, 9);
+        x.day(30);
+        x.fold(0, true);
+        x.fold(5, true);
+        int[] kept = sixAndCorners(x);
+        x.keep(1);
+        x.build(0, 0, 0);
+        x.build(7, 5, 0);
+        x.day(30);
+        for (int p = 0; p < 6; p++) {
+            x.fold(p, p % 5 != 0);
+            x.go(p, 3, 3);
+        }
+        x.goBack(1);
+        same("29: six persons, two houses", sixAndCorners(x), kept);
+        due("29: the house on the first cell", x.cell(0, 0, 0, 0), 1);
+        due("29: the house on the last cell", x.cell(7, 5, 0, 0), 9);
+    }
+
+    private static int[] sixAndCorners(ShadowTax x) {
+        int[] all = new int[20];
+        for (int p = 0; p < 6; p++) {
+            all[3 * p] = placeOf(x, p);
+            all[3 * p + 1] = x.person(p, 3);
+            all[3 * p + 2] = x.person(p, 4);
+        }
+        all[18] = x.cell(0, 0, 0, 0);
+        all[19] = x.cell(7, 5, 0, 0);
+        return all;
     }
 
     /** Promise 28, 29: "IMAGES 0, 1": one does not change the other. */
